@@ -697,7 +697,6 @@ public final class StillRoom {
             if (hands < MOST_HANDS) {
                 told[hands] = set;
                 chances[hands] = FIRST_CHANCE;
-                gone &= ~(1 << hands);
                 hands++;
             }
         }
