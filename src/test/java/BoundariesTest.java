@@ -387,6 +387,11 @@ public final class BoundariesTest {
         due("half of eight", half(15).stays(4), 0);
         due("half of eight", half(240).stays(4), 0);
         due("less than half of eight", half(240).stays(3), 1);
+        StillRoom again = half(240);
+        due("one behind the other", again.stays(4), 0);
+        due("one behind the other", again.stays(3), 1);
+        due("one behind the other", again.stays(8), 0);
+        due("one behind the other", again.stays(0), 1);
         sentence("SAFE with j: no set of just j (all, if there are fewer) CARRIES it.");
         StillRoom y = room(8, 1, 2, 4, 8, 16, 32, 64, 128);
         for (int j = 0; j <= 8; j++) {
@@ -397,6 +402,11 @@ public final class BoundariesTest {
         due("half of eight", halves(15).safe(4), 0);
         due("half of eight", halves(240).safe(4), 0);
         due("less than half of eight", halves(240).safe(3), 1);
+        again = halves(240);
+        due("one behind the other", again.safe(4), 0);
+        due("one behind the other", again.safe(3), 1);
+        due("one behind the other", again.safe(8), 0);
+        due("one behind the other", again.safe(0), 1);
         for (int j = 2; j <= 8; j++) {
             due("all of two: safe(" + j + ")", room(2, 1, 2).safe(j), 0);
             due("all of none: safe(" + j + ")", room(2).safe(j), 1);
@@ -726,6 +736,12 @@ public final class BoundariesTest {
         due("ROW, of four hands", room(4, 0, 0, 0, 0).finest(2, 1), 3);
         due("EACH, of four hands", room(4, 0, 0, 0, 0).finest(3, 0), 0);
         due("none", room(4, 0, 0, 0, 0).finest(4, 0), -9);
+        due("ROW, of eight hands", eight(10).finest(2, 0), 3);
+        due("HALF, of eight hands", eight(10).finest(3, 0), 4);
+        for (int g = 4; g < 8; g++) {
+            due("EACH, of eight hands, with " + g, eight(10).finest(g, 0), 0);
+        }
+        due("none, of eight hands", eight(10).finest(8, 0), -9);
         StillRoom paper = eight(10);
         paper.paper(1023);
         due("with 8", paper.finest(8, 0), 1);
@@ -1142,6 +1158,15 @@ public final class BoundariesTest {
         due("the refusals are not in it", x.count(14), below);
         due("it is not in it: restored again", x.restore(), 8);
         full(x);
+        StillRoom gone = room(1, 1);
+        gone.image();
+        gone.hand(0);
+        gone.sight(1, 0);
+        gone.over(1, true);
+        due("one who is over sees it", gone.safe(0), 0);
+        gone.restore();
+        due("one who is none any more sees nothing", gone.safe(0), 1);
+        due("one who is none any more carries nothing", gone.carriers(), 1);
         StillRoom z = room(4, 1);
         z.guess(8, 1);
         z.guess(1, 2);

@@ -4,13 +4,17 @@ import java.util.Random;
 import java.util.TreeSet;
 
 // Random runs of calls against a second, slow writing of the document with sets and lists,
-// which tries out everything and takes no short cut. The seeds are fixed.
+// which tries out everything and takes no short cut. The seeds are fixed. And in houses with nobody,
+// with some, with all, each call with every mixture of the numbers at the edges of what it allows.
 public final class ModelTest {
     private static int wrong = 0;
 
     public static void main(String[] args) {
         for (int seed = 1; seed <= 400 && wrong < 20; seed++) {
             play(seed, 300);
+        }
+        for (String[] house : HOUSES) {
+            edges(house);
         }
         System.out.println(wrong == 0 ? "the class and the model agree" : "they do not agree");
         if (wrong != 0) {
@@ -44,6 +48,64 @@ public final class ModelTest {
         }
     }
 
+    /** How many steps, what is read as a text, and who goes over then. */
+    private static final String[][] HOUSES = {
+        {"4", "", ""},
+        {"3", "hab;hc;hb;s01;s20;t12;gbc>a;pa;", "2"},
+        {"2", "ha;hb;", "01"},
+        {"10", "hab;hcd;hef;hgh;hij;ha;hb;hc;", "6"},
+        {"1", "ha;h;h;h;h;h;h;h;" + "t12;t23;t34;t45;t56;t67;t12;t12;t12;t12;t12;t12;", "17"},
+    };
+    private static final int[] EDGES = {Integer.MIN_VALUE, -33, -21, -2, -1, 0, 1, 2, 3, 4, 5, 7, 8, 9, 10, 11, 16,
+        32, 50, 51, 100, 101, 255, 256, 1023, 1024, Integer.MAX_VALUE};
+    private static final int[] FEW_EDGES = {Integer.MIN_VALUE, -2, -1, 0, 1, 3, 4, 7, 8, 9, 10, Integer.MAX_VALUE};
+    private static final List<String> OF_THREE = List.of("monday", "mend", "giving", "run");
+    private static final List<String> OF_TWO = List.of("tell", "chance", "sight", "tie", "guess", "knows", "finest");
+    private static final List<String> OF_ONE = List.of("feed", "steps", "hand", "over", "paper", "known", "stays",
+            "safe", "walls", "bank", "put", "judge", "count");
+
+    private static void edges(String[] house) {
+        boolean many = house[1].length() > 50 || house[0].equals("10");
+        for (String name : Call.NAMES) {
+            boolean three = OF_THREE.contains(name) && !(many && name.equals("mend"));
+            int[] first = OF_ONE.contains(name) || OF_TWO.contains(name) ? EDGES : three ? FEW_EDGES : new int[] {0};
+            int[] second = OF_TWO.contains(name) ? EDGES : three ? FEW_EDGES : new int[] {0};
+            int[] third = three ? FEW_EDGES : new int[] {0};
+            for (int a : first) {
+                for (int b : second) {
+                    for (int c : third) {
+                        edge(house, new Call(name, a, b, c, true));
+                        edge(house, new Call(name, a, b, c, false));
+                    }
+                }
+            }
+        }
+    }
+
+    private static void edge(String[] house, Call call) {
+        StillRoom x = new StillRoom();
+        Model m = new Model();
+        Call text = new Call("text", 0, 0, 0, false, house[1]);
+        x.steps(Integer.parseInt(house[0]));
+        m.steps(Integer.parseInt(house[0]));
+        text.on(x);
+        text.on(m);
+        for (char hand : house[2].toCharArray()) {
+            x.over(hand - '0', true);
+            m.over(hand - '0', true);
+        }
+        long got = call.on(x);
+        long want = call.on(m);
+        boolean same = got == want;
+        for (int what = 0; what <= 16; what++) {
+            same &= x.count(what) == m.count(what);
+        }
+        if (!same) {
+            wrong++;
+            System.out.println(house[1] + ": " + call + " answered " + got + ", due is " + want);
+        }
+    }
+
     /** The words of one call, drawn so that most of them fit. */
     private static final class Call {
         private static final String[] NAMES = {
@@ -58,6 +120,20 @@ public final class ModelTest {
         private final boolean is;
         private final long bytes;
         private final String text;
+
+        Call(String name, int a, int b, int c, boolean is) {
+            this(name, a, b, c, is, "");
+        }
+
+        Call(String name, int a, int b, int c, boolean is, String text) {
+            this.name = name;
+            this.a = a;
+            this.b = b;
+            this.c = c;
+            this.is = is;
+            this.bytes = 0x3b683b7061683b68L;
+            this.text = text;
+        }
 
         /** In a secretive house few steps are told and few go over, so that sights matter. */
         Call(Random r, Model m, int mostSteps, boolean secretive) {
