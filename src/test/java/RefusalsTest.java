@@ -22,7 +22,7 @@ public final class RefusalsTest {
         images();
         noRefusals();
         countsAddUp();
-        System.out.println(wrong == 0 ? "all " + cases + " refusals are as due" : wrong + " are not as due");
+        System.out.println(wrong == 0 ? "all " + cases + " cases are as due" : wrong + " are not as due");
         if (wrong != 0) {
             System.exit(1);
         }
