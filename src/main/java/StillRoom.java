@@ -20,6 +20,8 @@ public final class StillRoom {
     private static final int MOST_BYTES = 80;
     private static final int BYTES_OF_A_LONG = 8;
     private static final int MOST_YEARS = 50;
+    /** All bits of an int but its sign's. */
+    private static final int WITHOUT_SIGN = 0x7fffffff;
     private static final int MOST_ROW = 8;
     /** Half of eight hands can be chosen in 70 ways, and no other number of them in more. */
     private static final int MOST_CHOICES = 70;
@@ -592,7 +594,7 @@ public final class StillRoom {
             for (int hand = 0; hand < now.hands; hand++) {
                 if (mind.isHere(hand)) {
                     seed = seed * 1103515245 + 12345;
-                    if ((seed & Integer.MAX_VALUE) / 65536 % 100 < now.chances[hand]) {
+                    if ((seed & WITHOUT_SIGN) / 65536 % 100 < now.chances[hand]) {
                         mind.leave(hand);
                         went++;
                     }

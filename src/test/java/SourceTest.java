@@ -17,7 +17,7 @@ public final class SourceTest {
     private static final String SOURCE = "src/main/java/StillRoom.java";
     private static final String DOCUMENT = "../shared/DOC.md";
     private static final Set<String> LIBRARY = Set.of("Math.min", "Math.max", "Math.abs", "Math.floorMod",
-            "Math.floorDiv", "Integer.bitCount", "Integer.MAX_VALUE", "Integer.MIN_VALUE", "System.arraycopy");
+            "Math.floorDiv", "Integer.bitCount", "System.arraycopy");
     private static int wrong = 0;
 
     private static void must(boolean right, String what) {
